@@ -117,68 +117,57 @@ public final class MealLockers {
         questions = new Questions(current);
         history = new History();
         text = new Text();
-        player = new Player(text, changes);
+        player = new Player(text);
     }
 
     // ---- what there is to begin with
 
     public int locker(int cells, int cold) {
-        trial.copyFrom(current);
-        return settle(changes.addLocker(cells, cold));
+        return settle(onTrial().addLocker(cells, cold));
     }
 
     public int meal(int locker, int hours, int allergens) {
-        trial.copyFrom(current);
-        return settle(changes.addMeal(locker, hours, allergens));
+        return settle(onTrial().addMeal(locker, hours, allergens));
     }
 
     public int person(int allergies) {
-        trial.copyFrom(current);
-        return settle(changes.addPerson(allergies));
+        return settle(onTrial().addPerson(allergies));
     }
 
     public int volunteer(int locker, int room) {
-        trial.copyFrom(current);
-        return settle(changes.addVolunteer(locker, room));
+        return settle(onTrial().addVolunteer(locker, room));
     }
 
     // ---- codes
 
     public int reserve(int person, int meal) {
-        trial.copyFrom(current);
-        return settle(changes.reserveMeal(person, meal));
+        return settle(onTrial().reserveMeal(person, meal));
     }
 
     public int fetch(int locker, int code, int refused) {
-        trial.copyFrom(current);
-        return settle(changes.endReservation(locker, code, refused));
+        return settle(onTrial().endReservation(locker, code, refused));
     }
 
     // ---- volunteers
 
     public int take(int volunteer, int meal) {
-        trial.copyFrom(current);
-        return settle(changes.takeMeal(volunteer, meal));
+        return settle(onTrial().takeMeal(volunteer, meal));
     }
 
     public int go(int volunteer, int locker) {
-        trial.copyFrom(current);
-        return settle(changes.sendVolunteer(volunteer, locker));
+        return settle(onTrial().sendVolunteer(volunteer, locker));
     }
 
     public int put(int volunteer) {
-        trial.copyFrom(current);
-        return settle(changes.putMealsIn(volunteer));
+        return settle(onTrial().putMealsIn(volunteer));
     }
 
     public int pass(int hours) {
-        trial.copyFrom(current);
-        return settle(changes.passHours(hours, LAST_HOUR));
+        return settle(onTrial().passHours(hours, LAST_HOUR));
     }
 
     public int set(int what, int value) {
-        trial.copyFrom(current);
-        return settle(changes.changeSetting(what, value));
+        return settle(onTrial().changeSetting(what, value));
     }
 
     // ---- what there is
@@ -217,8 +206,7 @@ public final class MealLockers {
     }
 
     public int wouldSpoil(int hours) {
-        trial.copyFrom(current);
-        int answer = changes.passHours(hours, NO_LAST_HOUR);
+        int answer = onTrial().passHours(hours, NO_LAST_HOUR);
         return answer < 0 ? answer : trial.mealsSpoilt() & ~current.mealsSpoilt();
     }
 
@@ -245,14 +233,18 @@ public final class MealLockers {
     }
 
     public int fault(int what) {
-        trial.copyFrom(current);
-        player.playText();
+        player.playText(onTrial());
         return player.ofFault(what);
     }
 
     public int play() {
+        return settle(player.playText(onTrial()));
+    }
+
+    /** The changes of the trial state, which is made the same as the current one for them. */
+    private Changes onTrial() {
         trial.copyFrom(current);
-        return settle(player.playText());
+        return changes;
     }
 
     /** Takes the trial state over, if the change that was tried on it answered no error. */
@@ -1039,23 +1031,21 @@ public final class MealLockers {
     /** Does the commands of a text, and knows where and why it had to stop. */
     private static final class Player {
         private final Text text;
-        private final Changes changes;
         private int faultPosition;
         private int faultReason;
 
-        Player(Text text, Changes changes) {
+        Player(Text text) {
             this.text = text;
-            this.changes = changes;
         }
 
         /** Returns how many commands were done, or NOT_POSSIBLE if one of them is at fault. */
-        int playText() {
+        int playText(Changes changes) {
             int commands = 0;
             faultPosition = 0;
             faultReason = NO_FAULT;
             while (commands < TEXT_LIMIT && faultPosition < text.length()) {
                 faultReason = text.readCommand(faultPosition)
-                        ? reasonOf(doCommand()) : FAULT_OF_FORM;
+                        ? reasonOf(doCommand(changes)) : FAULT_OF_FORM;
                 if (faultReason != NO_FAULT) {
                     return NOT_POSSIBLE;
                 }
@@ -1065,7 +1055,7 @@ public final class MealLockers {
             return commands;
         }
 
-        private int doCommand() {
+        private int doCommand(Changes changes) {
             switch (text.letter) {
                 case 'r':
                     return changes.reserveMeal(text.first, text.second);

@@ -15,6 +15,7 @@ public final class AdviceTest {
         promise21AllShares();
         promise22Undo();
         promise22HistoryOfFour();
+        promise22ChangesAfterUndo();
         DUE.end();
     }
 
@@ -307,5 +308,66 @@ public final class AdviceTest {
         DUE.is("22 one again", x.count(11), 1);
         DUE.is("22 one again", x.undo(), 0);
         DUE.is("22 the value", x.count(16), 5);
+    }
+
+    /** What undo, wouldSpoil and fault looked at does not come back by the change after them. */
+    private static void promise22ChangesAfterUndo() {
+        String[] names = {"locker", "meal", "person", "volunteer", "reserve", "fetch", "take",
+            "go", "put", "pass", "set", "play"};
+        for (String name : names) {
+            MealLockers x = new MealLockers();
+            x.locker(4, 1);
+            x.locker(4, 0);
+            x.person(0);
+            x.volunteer(0, 2);
+            x.meal(0, 50, 0);
+            x.meal(0, 50, 0);
+            x.take(0, 1);
+            DUE.is("22 code", x.reserve(0, 0), 1000);
+            Due.write(x, "h7;");
+            x.set(2, 9);
+            x.set(3, 5);
+            DUE.is("22 undo, then " + name, x.undo(), 3);
+            DUE.is("22 no fault", x.fault(0), -4);
+            DUE.is("22 would spoil", x.wouldSpoil(60), 3);
+            DUE.is("22 " + name, change(x, name), dueOf(name));
+            DUE.is("22 undone, and so after " + name, x.count(16), 1);
+            DUE.is("22 not undone, after " + name, x.count(15), 9);
+            int passed = name.equals("pass") ? 1 : name.equals("play") ? 7 : 0;
+            DUE.is("22 the time after " + name, x.count(4), passed);
+        }
+    }
+
+    private static int change(MealLockers x, String name) {
+        switch (name) {
+            case "locker": return x.locker(4, 0);
+            case "meal": return x.meal(0, 9, 0);
+            case "person": return x.person(0);
+            case "volunteer": return x.volunteer(0, 1);
+            case "reserve": x.person(0); x.meal(0, 9, 0); return x.reserve(1, 2);
+            case "fetch": return x.fetch(0, 1000, 0);
+            case "take": x.meal(0, 9, 0); return x.take(0, 2);
+            case "go": return x.go(0, 1);
+            case "put": return x.put(0);
+            case "pass": return x.pass(1);
+            case "set": return x.set(0, 2);
+            default: return x.play();
+        }
+    }
+
+    private static int dueOf(String name) {
+        switch (name) {
+            case "locker": return 2;
+            case "meal": return 2;
+            case "person": return 1;
+            case "volunteer": return 1;
+            case "reserve": return 1000 + 74 + 7;
+            case "take": return 2;
+            case "go": return 1;
+            case "put": return 1;
+            case "set": return 4;
+            case "play": return 1;
+            default: return 0;
+        }
     }
 }

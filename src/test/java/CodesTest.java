@@ -43,6 +43,9 @@ public final class CodesTest {
         DUE.is("6 INVALID_ARGUMENT first", x.reserve(1, 2), -1);
         DUE.is("6 the other one", x.reserve(0, 0), 1000);
         DUE.is("6 reservations", x.count(10), 2);
+        x.meal(0, 50, 0);
+        DUE.is("6 has a reservation, of meal 0", x.reserve(0, 2), -2);
+        DUE.is("6 its meal", x.personOf(0, 3), 0);
     }
 
     private static void promise6Allergens() {
@@ -269,6 +272,7 @@ public final class CodesTest {
         x.reserve(0, 0);
         DUE.is("spoil: in the hour of lapsing", x.pass(4), 1);
         DUE.is("spoil: stage", x.mealOf(0, 0), 5);
+        DUE.is("spoil: in the locker", x.lockerOf(0, 8), 1);
         DUE.is("spoil: no strike", x.personOf(0, 1), 0);
         DUE.is("spoil: not lapsed", x.personOf(0, 5), 0);
         DUE.is("spoil: no reservation", x.personOf(0, 3), -4);

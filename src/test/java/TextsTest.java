@@ -138,6 +138,11 @@ public final class TextsTest {
         DUE.is("25 none", x.fault(1), -4);
         DUE.is("25 what 2", x.fault(2), -1);
         Due.write(x, "h0;");
+        DUE.is("25 a fault", x.fault(0), 0);
+        x.clearText();
+        DUE.is("25 none in the empty text", x.fault(0), -4);
+        DUE.is("25 none in the empty text", x.fault(1), -4);
+        Due.write(x, "h0;");
         DUE.is("25 what 2, with a fault", x.fault(2), -1);
         DUE.is("25 what -1, with a fault", x.fault(-1), -1);
         DUE.is("25 a fault", x.fault(1), 2);

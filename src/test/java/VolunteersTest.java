@@ -83,6 +83,8 @@ public final class VolunteersTest {
         x.pass(5);
         DUE.is("9 hours left", x.volunteerOf(0, 3), 1);
         DUE.is("9 hours so far", x.volunteerOf(0, 4), 5);
+        DUE.is("9 under way for one more hour", x.go(0, 0), -2);
+        DUE.is("9 under way for one more hour", x.put(0), -2);
         DUE.is("9 still with the volunteer", x.mealOf(0, 0), 2);
         DUE.is("9 cold hours", x.mealOf(0, 2), 20 - 2 * 6);
         x.pass(1);
