@@ -914,8 +914,8 @@ public final class MealLockers {
         }
 
         int restoreLatest(State into) {
-            State latest = slotAt(size - 1);
-            if (size <= 0 || latest == null) {
+            State latest = size > 0 ? slotAt(size - 1) : null;
+            if (latest == null) {
                 return NOT_POSSIBLE;
             }
             into.copyFrom(latest);

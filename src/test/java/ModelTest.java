@@ -174,38 +174,7 @@ public final class ModelTest {
     private void call(String name, int a, int b, int c) {
         if (calls++ < CALLS) {
             DUE.is("seed " + seed + ", call " + calls + ": " + name + "(" + a + ", " + b + ", " + c
-                    + ")", answer(name, a, b, c), model.call(name, a, b, c));
-        }
-    }
-
-    private int answer(String name, int a, int b, int c) {
-        switch (name) {
-            case "locker": return real.locker(a, b);
-            case "meal": return real.meal(a, b, c);
-            case "person": return real.person(a);
-            case "volunteer": return real.volunteer(a, b);
-            case "reserve": return real.reserve(a, b);
-            case "fetch": return real.fetch(a, b, c);
-            case "take": return real.take(a, b);
-            case "go": return real.go(a, b);
-            case "put": return real.put(a);
-            case "pass": return real.pass(a);
-            case "set": return real.set(a, b);
-            case "mealOf": return real.mealOf(a, b);
-            case "lockerOf": return real.lockerOf(a, b);
-            case "personOf": return real.personOf(a, b);
-            case "volunteerOf": return real.volunteerOf(a, b);
-            case "count": return real.count(a);
-            case "advice": return real.advice(a);
-            case "wouldSpoil": return real.wouldSpoil(a);
-            case "move": return real.move(a);
-            case "shareBits": return real.shareBits();
-            case "undo": return real.undo();
-            case "type": return real.type(a);
-            case "clearText": return real.clearText();
-            case "fault": return real.fault(a);
-            case "play": return real.play();
-            default: throw new IllegalArgumentException(name);
+                    + ")", Calls.answer(real, name, a, b, c), model.call(name, a, b, c));
         }
     }
 }
