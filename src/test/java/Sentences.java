@@ -45,6 +45,10 @@ final class Sentences {
             Edges.holds("has a test: " + sentence,
                     quoted.contains(sentence) || isWithoutBoundary(sentence));
         }
+        for (String start : WITHOUT) {
+            Edges.holds("begins a sentence: " + start,
+                    sentences.stream().anyMatch(one -> one.startsWith(start)));
+        }
         for (String quote : quoted) {
             Edges.holds("is in the document: " + quote,
                     sentences.contains(quote) || quote.startsWith("Sentences: "));
