@@ -1,8 +1,9 @@
 /**
  * Surplus meals in lockers. The document ../shared/DOC.md says what every public call answers.
  *
- * <p>Every change is first tried on a second state; only one without an error is recorded in the
- * history and taken over. All rows are made in constructors, so that no call makes an object.
+ * <p>Every change is first tried on a second state, since a text may turn out to be at fault when
+ * half of its commands are done. All rows are made in constructors and used again, since all calls
+ * of a run live in one room.
  */
 public final class MealLockers {
     public static final int INVALID_ARGUMENT = -1;
@@ -29,7 +30,7 @@ public final class MealLockers {
     private static final int LOSS_IN_COLD = 1;
     private static final int LOSS_ELSEWHERE = 2;
 
-    // The columns stand at the numbers by which the document asks for them, where it does.
+    // Columns have the numbers by which the document asks, so that most answers are just read.
     private static final int LOCKER_CELLS = 0;
     private static final int LOCKER_COLD = 1;
     private static final int LOCKER_MEALS = 2;
@@ -66,7 +67,8 @@ public final class MealLockers {
     private static final int VOLUNTEER_WALKED = 4;
     private static final int VOLUNTEER_COLUMNS = 5;
 
-    // The stages of a meal; those up to RESERVED are in a locker, those from FETCHED on are gone.
+    // In this order a range of stages tells whether a meal is in a locker (up to RESERVED) or gone
+    // (from FETCHED on).
     private static final int IN_LOCKER = 0;
     private static final int RESERVED = 1;
     private static final int CARRIED = 2;
@@ -83,6 +85,17 @@ public final class MealLockers {
     private static final int[] MOST_OF_SETTING = {48, 9, 99, 9};
     private static final int[] FIRST_OF_SETTING = {4, 3, 24, 1};
 
+    private static final int COUNT_LOCKERS = 0;
+    private static final int COUNT_MEALS = 1;
+    private static final int COUNT_PEOPLE = 2;
+    private static final int COUNT_VOLUNTEERS = 3;
+    private static final int COUNT_TIME = 4;
+    private static final int COUNT_IN_LOCKERS = 5;
+    private static final int COUNT_CARRIED = 6;
+    private static final int COUNT_FETCHED = 7;
+    private static final int COUNT_REFUSED = 8;
+    private static final int COUNT_SPOILT = 9;
+    private static final int COUNT_RESERVED = 10;
     private static final int COUNT_HISTORY = 11;
     private static final int COUNT_TEXT = 12;
     private static final int COUNT_SETTINGS = 13;
@@ -101,6 +114,11 @@ public final class MealLockers {
     private static final int FAULT_OF_FORM = 1;
     private static final int FAULT_OF_ARGUMENT = 2;
     private static final int FAULT_OF_STATE = 3;
+
+    // How a float is made up of bits: LANGUAGE.md has no Float that would tell them.
+    private static final int FLOAT_EXPONENT_OF_ONE = 127;
+    private static final int FLOAT_FRACTION_BITS = 23;
+    private static final int DOUBLINGS_OF_LEAST_SHARE = 5;
 
     private final State current;
     private final State trial;
@@ -241,13 +259,13 @@ public final class MealLockers {
         return settle(player.playText(onTrial()));
     }
 
-    /** The changes of the trial state, which is made the same as the current one for them. */
+    /** What is tried must begin at the current state, whatever was left of the trial before. */
     private Changes onTrial() {
         trial.copyFrom(current);
         return changes;
     }
 
-    /** Takes the trial state over, if the change that was tried on it answered no error. */
+    /** A change that answered an error is forgotten with its trial state: it changes nothing. */
     private int settle(int answer) {
         if (answer >= 0) {
             history.keep(current);
@@ -260,7 +278,10 @@ public final class MealLockers {
         return value >= least && value <= most;
     }
 
-    /** Rows of numbers. Cells outside it read as 0 and are not written. */
+    /**
+     * Rows of numbers. Cells outside it read as 0 and are not written, so that no row or column
+     * can make the machine throw.
+     */
     private static final class Table {
         private final int limit;
         private final int columns;
@@ -285,11 +306,8 @@ public final class MealLockers {
             return rows >= limit;
         }
 
-        /** Adds a row of zeros, and returns its number. */
+        /** Who calls it has looked at isFull, since that has its place in the order of errors. */
         int addRow() {
-            if (isFull()) {
-                return LIMIT_REACHED;
-            }
             rows++;
             return rows - 1;
         }
@@ -312,13 +330,14 @@ public final class MealLockers {
 
         void copyFrom(Table other) {
             rows = other.rows;
+            // The rows that are not in use are copied, too: a new row has to begin with zeros.
             for (int i = 0; i < cells.length && i < other.cells.length; i++) {
                 cells[i] = other.cells[i];
             }
         }
     }
 
-    /** Everything but the text and the history, and what several parts ask of it. */
+    /** What the history records: everything but the text. */
     private static final class State {
         private final Table lockers;
         private final Table meals;
@@ -351,7 +370,6 @@ public final class MealLockers {
             return settings.at(what, 0);
         }
 
-        /** The meals in the locker, as a set. */
         int mealsIn(int locker) {
             int set = 0;
             for (int m = 0; m < meals.size(); m++) {
@@ -362,7 +380,6 @@ public final class MealLockers {
             return set;
         }
 
-        /** The meals that the volunteer carries, as a set. */
         int mealsWith(int volunteer) {
             int set = 0;
             for (int m = 0; m < meals.size(); m++) {
@@ -388,7 +405,6 @@ public final class MealLockers {
             return lockers.at(locker, LOCKER_CELLS) - Integer.bitCount(mealsIn(locker));
         }
 
-        /** The meal that the person has reserved, or NOT_FOUND. */
         int mealReservedBy(int person) {
             for (int m = 0; m < meals.size(); m++) {
                 if (meals.at(m, MEAL_STAGE) == RESERVED && meals.at(m, MEAL_PERSON) == person) {
@@ -398,7 +414,7 @@ public final class MealLockers {
             return NOT_FOUND;
         }
 
-        /** Whether the person could reserve the meal, as far as the meal is looked at alone. */
+        /** Does not look at what else hinders the person, since advice() must not. */
         boolean isFitFor(int person, int meal) {
             int shared = meals.at(meal, MEAL_ALLERGENS) & people.at(person, PERSON_ALLERGIES);
             return meals.at(meal, MEAL_STAGE) == IN_LOCKER && shared == 0;
@@ -421,7 +437,7 @@ public final class MealLockers {
         }
     }
 
-    /** The changes of a state. One that returns an error leaves the state as it was. */
+    /** What changes a state. The errors are looked for ahead of the first cell that is written. */
     private static final class Changes {
         private final State state;
         private final Table lockers;
@@ -585,7 +601,6 @@ public final class MealLockers {
             return stowed > 0 ? stowed : NOT_POSSIBLE;
         }
 
-        /** Puts what the volunteer carries into free cells; returns how many meals. */
         private int stowMeals(int volunteer) {
             int locker = volunteers.at(volunteer, VOLUNTEER_LOCKER);
             int free = state.freeCells(locker);
@@ -612,9 +627,10 @@ public final class MealLockers {
             int spoilt = 0;
             for (int h = 0; h < hours; h++) {
                 state.time++;
-                spoilt += loseColdHours();
+                spoilt += spoilMealsOfThisHour();
                 for (int v = 0; v < volunteers.size(); v++) {
-                    if (walkAnHour(v)) {
+                    walkAnHour(v);
+                    if (volunteers.at(v, VOLUNTEER_ARRIVAL) == state.time) {
                         stowMeals(v);
                     }
                 }
@@ -623,8 +639,7 @@ public final class MealLockers {
             return spoilt;
         }
 
-        /** Returns how many meals spoil in this hour. */
-        private int loseColdHours() {
+        private int spoilMealsOfThisHour() {
             int spoilt = 0;
             for (int m = 0; m < meals.size(); m++) {
                 int stage = meals.at(m, MEAL_STAGE);
@@ -649,14 +664,11 @@ public final class MealLockers {
             meals.store(meal, MEAL_STAGE, SPOILT);
         }
 
-        /** Returns whether the volunteer arrives in this hour. */
-        private boolean walkAnHour(int volunteer) {
-            int arrival = volunteers.at(volunteer, VOLUNTEER_ARRIVAL);
+        private void walkAnHour(int volunteer) {
             // The time was already made greater, so the hour of arriving is still one of the way.
-            if (arrival >= state.time) {
+            if (volunteers.at(volunteer, VOLUNTEER_ARRIVAL) >= state.time) {
                 volunteers.raise(volunteer, VOLUNTEER_WALKED);
             }
-            return arrival == state.time;
         }
 
         private void lapseReservations() {
@@ -691,7 +703,7 @@ public final class MealLockers {
         }
     }
 
-    /** The questions about a state that change nothing. */
+    /** What is asked of a state; nothing here writes to it. */
     private static final class Questions {
         private final State state;
         private final Table lockers;
@@ -714,7 +726,7 @@ public final class MealLockers {
             return tells(meals.at(meal, MEAL_STAGE), what) ? meals.at(meal, what) : NOT_FOUND;
         }
 
-        /** Whether a meal has such a value at this stage; columns keep what was once in them. */
+        /** The columns keep what was once in them, so the stage tells what still holds. */
         private static boolean tells(int stage, int what) {
             switch (what) {
                 case MEAL_CODE:
@@ -766,27 +778,27 @@ public final class MealLockers {
 
         int total(int what) {
             switch (what) {
-                case 0:
+                case COUNT_LOCKERS:
                     return lockers.size();
-                case 1:
+                case COUNT_MEALS:
                     return meals.size();
-                case 2:
+                case COUNT_PEOPLE:
                     return people.size();
-                case 3:
+                case COUNT_VOLUNTEERS:
                     return volunteers.size();
-                case 4:
+                case COUNT_TIME:
                     return state.time;
-                case 5:
+                case COUNT_IN_LOCKERS:
                     return mealsAtStages(IN_LOCKER, RESERVED);
-                case 6:
+                case COUNT_CARRIED:
                     return mealsAtStages(CARRIED, CARRIED);
-                case 7:
+                case COUNT_FETCHED:
                     return mealsAtStages(FETCHED, FETCHED);
-                case 8:
+                case COUNT_REFUSED:
                     return mealsAtStages(REFUSED, REFUSED);
-                case 9:
+                case COUNT_SPOILT:
                     return mealsAtStages(SPOILT, SPOILT);
-                case 10:
+                case COUNT_RESERVED:
                     return mealsAtStages(RESERVED, RESERVED);
                 default:
                     return isWithin(what, COUNT_SETTINGS, COUNT_SETTINGS + SETTINGS - 1)
@@ -811,15 +823,14 @@ public final class MealLockers {
             int best = NOT_FOUND;
             for (int m = 0; m < meals.size(); m++) {
                 if (state.isFitFor(person, m)
-                        && (best < 0 || hoursUntilSpoilt(m) < hoursUntilSpoilt(best))) {
+                        && (best < 0 || hoursIfItStays(m) < hoursIfItStays(best))) {
                     best = m;
                 }
             }
             return best;
         }
 
-        /** For a meal in a locker, if it stays there. */
-        private int hoursUntilSpoilt(int meal) {
+        private int hoursIfItStays(int meal) {
             int left = meals.at(meal, MEAL_COLD_HOURS);
             return state.isCold(meals.at(meal, MEAL_LOCKER))
                     ? left : (left + LOSS_ELSEWHERE - 1) / LOSS_ELSEWHERE;
@@ -853,7 +864,7 @@ public final class MealLockers {
                     && state.isCold(locker) && state.freeCells(locker) > 0;
         }
 
-        /** The cold hours that a meal would have then; with 0 or fewer it would be spoilt. */
+        /** May be below 0: then it would be spoilt before, and this never is the most. */
         private int hoursOnArriving(int meal, int locker) {
             int way = state.wayHours(meals.at(meal, MEAL_LOCKER), locker);
             return meals.at(meal, MEAL_COLD_HOURS) - LOSS_ELSEWHERE * way;
@@ -867,23 +878,24 @@ public final class MealLockers {
             return floatBits((float) mealsAtStages(FETCHED, FETCHED) / (float) gone);
         }
 
-        /** The bits of a float that is 0, or from 1/32 to 1 (what a share of 24 can be). */
         private static int floatBits(float share) {
             if (share <= 0f) {
                 return 0;
             }
-            // Doubling is exact, and so is what is left of the fraction above 1.
+            // No step below rounds. A share of at most 24 meals is 1/24 or more, so that five
+            // doublings lead it to 1 or above.
             float fraction = share;
-            int exponent = 127;
-            for (int i = 0; i < 5 && fraction < 1f; i++) {
+            int exponent = FLOAT_EXPONENT_OF_ONE;
+            for (int i = 0; i < DOUBLINGS_OF_LEAST_SHARE && fraction < 1f; i++) {
                 fraction = fraction * 2f;
                 exponent--;
             }
-            return (exponent << 23) | (int) ((fraction - 1f) * 8388608f);
+            int aboveOne = (int) ((fraction - 1f) * (float) (1 << FLOAT_FRACTION_BITS));
+            return (exponent << FLOAT_FRACTION_BITS) | aboveOne;
         }
     }
 
-    /** The latest states, in a ring of rows that are used again. */
+    /** The latest states, in a ring, so that keeping one makes no object. */
     private static final class History {
         private final State[] states;
         private int oldest;
@@ -900,7 +912,7 @@ public final class MealLockers {
             return size;
         }
 
-        /** Keeps a copy of the state; with too many the oldest one is dropped. */
+        /** Copies, since the state goes on being changed. */
         void keep(State state) {
             if (size >= HISTORY_LIMIT) {
                 oldest = (oldest + 1) % HISTORY_LIMIT;
@@ -923,14 +935,13 @@ public final class MealLockers {
             return size;
         }
 
-        /** The state with this age, counted from the oldest one. */
-        private State slotAt(int age) {
-            int index = (oldest + age) % HISTORY_LIMIT;
+        private State slotAt(int stepsFromOldest) {
+            int index = (oldest + stepsFromOldest) % HISTORY_LIMIT;
             return index >= 0 && index < states.length ? states[index] : null;
         }
     }
 
-    /** The text, and the parts of the command in it that was read last. */
+    /** Keeps the parts of the command that was read last, so that reading makes no object. */
     private static final class Text {
         private final char[] signs;
         private int length;
@@ -966,7 +977,7 @@ public final class MealLockers {
             return before;
         }
 
-        /** Reads the command from this position on; false if it is not of its form. */
+        /** Returns whether it is of its form; only then its parts may be asked for. */
         boolean readCommand(int position) {
             next = position + 1;
             letter = signAt(position);
@@ -985,7 +996,7 @@ public final class MealLockers {
             return readSign(';');
         }
 
-        /** How many numbers a command with this letter has; 0: there is no such command. */
+        /** 0 for a letter without a command, since each command has a number. */
         private static int numbersOf(char letter) {
             switch (letter) {
                 case 'r':
@@ -1028,7 +1039,7 @@ public final class MealLockers {
         }
     }
 
-    /** Does the commands of a text, and knows where and why it had to stop. */
+    /** Keeps where and why it had to stop, since fault() asks for one of both. */
     private static final class Player {
         private final Text text;
         private int faultPosition;
@@ -1038,7 +1049,6 @@ public final class MealLockers {
             this.text = text;
         }
 
-        /** Returns how many commands were done, or NOT_POSSIBLE if one of them is at fault. */
         int playText(Changes changes) {
             int commands = 0;
             faultPosition = 0;
