@@ -981,7 +981,6 @@ public final class MealLockers {
         boolean readCommand(int position) {
             next = position + 1;
             letter = signAt(position);
-            second = 0;
             int numbers = numbersOf(letter);
             if (numbers == 0 || !readNumber()) {
                 return false;
